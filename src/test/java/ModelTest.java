@@ -1,15 +1,16 @@
 import java.util.Random;
 
-/** Runs of 512 calls by chance (of a fixed seed), each answer and status held against the model. */
+/** Runs of at most 512 calls by chance (of a fixed seed), each answer and status held against the model. */
 public final class ModelTest {
-    private static final int RUNS = 2500;
-    private static final int CALLS = 512;
+    private static final int RUNS = 12000;
+    /** A round makes at most six calls, those of status() counted too. */
+    private static final int LAST_ROUND_AT = 512 - 6;
 
     private final Random random;
     private final ReckonBench bench = new ReckonBench();
     private final Model model = new Model();
     private final int run;
-    private int call = 0;
+    private int calls = 0;
     private int rowsAsked = 0;
     private final int longest;
 
@@ -23,15 +24,14 @@ public final class ModelTest {
     public static void main(String[] args) {
         for (int run = 0; run < RUNS; run++) {
             ModelTest test = new ModelTest(run);
-            for (int i = 0; i < CALLS; i++) {
-                test.oneCall();
+            while (test.calls <= LAST_ROUND_AT) {
+                test.round();
             }
         }
         Checks.end();
     }
 
-    private void oneCall() {
-        call++;
+    private void round() {
         int which = rowsAsked < 3 ? 0 : 1 + random.nextInt(40);
         if (which == 0 || which == 1 && random.nextInt(4) == 0) {
             rowsAsked++;
@@ -121,7 +121,8 @@ public final class ModelTest {
     }
 
     private void check(String what, long got, long want) {
-        String told = "run " + run + ", call " + call + ", " + what;
+        calls += 2;
+        String told = "run " + run + ", call " + calls + ", " + what;
         Checks.due(told, got, want);
         Checks.due(told + ", then status()", bench.status(), model.status);
     }
