@@ -8,6 +8,10 @@ public final class ReckonBench {
     private static final int LONGEST_ROW = 500;
     private static final int LONGEST_STEP = 1000000000;
     private static final int LAST_SORT_WAY = 2;
+    private static final long LEAST_INT = -2147483648L;
+    private static final long GREATEST_INT = 2147483647L;
+    private static final long LEAST_LONG = 1L << 63;
+    private static final long GREATEST_LONG = LEAST_LONG - 1;
 
     private static final int SUM_PLAIN = 0;
     private static final int SUM_CARRIED = 1;
@@ -94,7 +98,7 @@ public final class ReckonBench {
         }
         long whole = Reckoning.cutOff(held.kind, held.numbers[i]);
         if (narrow) {
-            whole = Math.max(Integer.MIN_VALUE, Math.min(Integer.MAX_VALUE, whole));
+            whole = Math.max(LEAST_INT, Math.min(GREATEST_INT, whole));
         }
         return answerLong(whole);
     }
@@ -537,7 +541,7 @@ public final class ReckonBench {
         static final int OVER = 11;
         static final int REMAINDER = 12;
         static final int OPPOSITE = 13;
-        static final int LAST_ACT = 13;
+        static final int LAST_ACT = OPPOSITE;
 
         /** Bits of a long that stand free above the longest significand, of 53 bits. */
         private static final int FREE_BITS = 11;
@@ -559,6 +563,10 @@ public final class ReckonBench {
                     return kind.greater(x, y);
                 case LESSER:
                     return kind.lesser(x, y);
+                case NOT_ABOVE:
+                case NOT_BELOW:
+                case NEAREST:
+                    return toWhole(kind, x, what);
                 case SIGN:
                     return kind.magnitude(x) == 0 ? x : kind.signed(kind.isNegative(x), kind.one());
                 case WITH_SIGN_OF:
@@ -573,10 +581,8 @@ public final class ReckonBench {
                     return over(kind, x, y);
                 case REMAINDER:
                     return remainder(kind, x, y);
-                case OPPOSITE:
-                    return kind.opposite(x);
                 default:
-                    return toWhole(kind, x, what);
+                    return kind.opposite(x);
             }
         }
 
@@ -612,7 +618,7 @@ public final class ReckonBench {
                 return negative ? -whole : whole;
             }
             if (exponent >= Long.numberOfLeadingZeros(significand)) {
-                return negative ? Long.MIN_VALUE : Long.MAX_VALUE;
+                return negative ? LEAST_LONG : GREATEST_LONG;
             }
             long whole = significand << exponent;
             return negative ? -whole : whole;
@@ -682,10 +688,8 @@ public final class ReckonBench {
             return kept << places == significand ? kept : kept | 1;
         }
 
+        /** Of two that aren't NaN. */
         static long times(Kind kind, long x, long y) {
-            if (kind.isNan(x) || kind.isNan(y)) {
-                return kind.nan;
-            }
             boolean negative = kind.isNegative(x) != kind.isNegative(y);
             boolean zero = kind.magnitude(x) == 0 || kind.magnitude(y) == 0;
             if (kind.isInfinite(x) || kind.isInfinite(y)) {
@@ -720,10 +724,8 @@ public final class ReckonBench {
             return exact ? top : top | 1;
         }
 
+        /** Of two that aren't NaN. */
         static long over(Kind kind, long x, long y) {
-            if (kind.isNan(x) || kind.isNan(y)) {
-                return kind.nan;
-            }
             boolean negative = kind.isNegative(x) != kind.isNegative(y);
             if (kind.isInfinite(x)) {
                 return kind.isInfinite(y) ? kind.nan : kind.signed(negative, kind.infinite);
@@ -764,12 +766,10 @@ public final class ReckonBench {
             return rest == 0 ? quotient : quotient | 1;
         }
 
-        static long remainder(Kind kind, long x, long y) {
-            if (kind.isNan(x) || kind.isNan(y) || kind.isInfinite(x)) {
-                return kind.nan;
-            }
+        /** Of two that aren't NaN. */
+        private static long remainder(Kind kind, long x, long y) {
             long divisor = kind.significand(y);
-            if (divisor == 0) {
+            if (kind.isInfinite(x) || divisor == 0) {
                 return kind.nan;
             }
             if (kind.isInfinite(y) || kind.magnitude(x) < kind.magnitude(y)) {
@@ -895,7 +895,7 @@ public final class ReckonBench {
         static final int OVER = 3;
         static final int AROUND_BOTH = 4;
         static final int IN_BOTH = 5;
-        static final int LAST_ACT = 5;
+        static final int LAST_ACT = IN_BOTH;
 
         final Kind kind;
         final long low;

@@ -19,6 +19,8 @@ public final class ActTest {
         quotients();
         remainders();
         roundings();
+        productsNearTies();
+        quotientsNearTies();
         singles();
         places();
         anyDoubles();
@@ -270,6 +272,70 @@ public final class ActTest {
         onDoubles(9, one, LEAST, one);
         onDoubles(8, MOST, 0x1p970, INF);
         onDoubles(8, MOST, Math.nextDown(0x1p970), MOST);
+    }
+
+    /** The inverse of an odd number, as to its last bits. */
+    private static long inverse(long odd) {
+        long inverse = odd;
+        for (int round = 0; round < 6; round++) {
+            inverse *= 2 - odd * inverse;
+        }
+        return inverse;
+    }
+
+    /** Products that end in just a half of the last bit kept, or a single bit, of any place, beside it. */
+    private static void productsNearTies() {
+        Random random = new Random(10);
+        long top = 1L << 52;
+        for (int round = 0; round < 40; round++) {
+            for (int place = 0; place < 51; place++) {
+                for (int side = -1; side <= 1; side++) {
+                    for (int half = 51; half <= 52; half++) {
+                        long x = top | random.nextLong() & top - 1 | 1;
+                        long end = (1L << half) + side * (1L << place);
+                        long y = top | end * inverse(x) & top - 1;
+                        double xs = Math.scalb((double) x, -52);
+                        double ys = Math.scalb((double) y, random.nextInt(100) - 50);
+                        onDoubles(10, xs, ys, xs * ys);
+                        singleNearTie(random, place, side, half);
+                    }
+                }
+            }
+        }
+    }
+
+    private static void singleNearTie(Random random, int place, int side, int half) {
+        long top = 1L << 23;
+        long x = top | random.nextLong() & top - 1 | 1;
+        long end = (1L << half - 29) + side * (1L << place * 22 / 51);
+        long y = top | end * inverse(x) & top - 1;
+        float xs = Math.scalb((float) x, -23);
+        float ys = Math.scalb((float) y, random.nextInt(60) - 30);
+        onSingles(10, xs, ys, xs * ys);
+    }
+
+    /**
+     * Quotients that come next to zero, where few bits are kept, and are less than the half of the last
+     * bit, or more, by as little as can be.
+     */
+    private static void quotientsNearTies() {
+        Random random = new Random(11);
+        for (int round = 0; round < 60; round++) {
+            for (int kept = 3; kept < 51; kept++) {
+                for (int side = -1; side <= 1; side += 2) {
+                    long tie = 1L << kept | random.nextLong() & (1L << kept) - 1 | 1;
+                    // y * tie is side, as to its last bits; so x / y and tie / 2^kept are all but alike.
+                    long y = side * inverse(tie) & (1L << kept) - 1;
+                    y |= 1L << 51 | (random.nextLong() & (1L << 51) - 1) >>> kept << kept;
+                    long x = java.math.BigInteger.valueOf(y).multiply(java.math.BigInteger.valueOf(tie))
+                            .subtract(java.math.BigInteger.valueOf(side)).shiftRight(kept).longValueExact();
+                    double xs = Math.scalb((double) x, kept - 1075 + 150 - 51);
+                    double ys = Math.scalb((double) y, 150 - 51);
+                    long want = (tie >>> 1) + (side < 0 ? 1 : 0);
+                    onDoubles(11, xs, ys, Checks.toDouble(want));
+                }
+            }
+        }
     }
 
     private static void singles() {
