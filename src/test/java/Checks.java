@@ -56,6 +56,26 @@ final class Checks {
         return Float.intBitsToFloat((int) bits);
     }
 
+    /** Row 0 of doubles, row 1 of singles: these numbers in both (the least and the greatest of each kind). */
+    static ReckonBench with(double... numbers) {
+        ReckonBench bench = new ReckonBench();
+        bench.row(numbers.length, false);
+        bench.row(numbers.length, true);
+        for (int i = 0; i < numbers.length; i++) {
+            bench.set(0, i, d(numbers[i]));
+            bench.set(1, i, s(single(numbers[i])));
+        }
+        return bench;
+    }
+
+    static float single(double x) {
+        float sign = Math.copySign(1f, (float) x);
+        if (Math.abs(x) == Double.MIN_VALUE) {
+            return sign * Float.MIN_VALUE;
+        }
+        return Math.abs(x) == Double.MAX_VALUE ? sign * Float.MAX_VALUE : (float) x;
+    }
+
     /** Bits of a number worth trying; of NaN in its one form, unless wild ones are asked for. */
     static long someBits(Random random, boolean single, boolean wild) {
         long bits = single ? s(someSingle(random)) : d(someDouble(random));

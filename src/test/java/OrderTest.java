@@ -19,29 +19,9 @@ public final class OrderTest {
         Checks.end();
     }
 
-    /** Row 0 of doubles, row 1 of singles: these numbers in both (the least and the greatest of each kind). */
-    private static ReckonBench with(double... numbers) {
-        ReckonBench bench = new ReckonBench();
-        bench.row(numbers.length, false);
-        bench.row(numbers.length, true);
-        for (int i = 0; i < numbers.length; i++) {
-            bench.set(0, i, Checks.d(numbers[i]));
-            bench.set(1, i, Checks.s(single(numbers[i])));
-        }
-        return bench;
-    }
-
-    private static float single(double x) {
-        float sign = Math.copySign(1f, (float) x);
-        if (Math.abs(x) == Double.MIN_VALUE) {
-            return sign * Float.MIN_VALUE;
-        }
-        return Math.abs(x) == Double.MAX_VALUE ? sign * Float.MAX_VALUE : (float) x;
-    }
-
     private static void relations() {
         for (int i = 0; i < ORDERED.length; i++) {
-            ReckonBench bench = with(ORDERED);
+            ReckonBench bench = Checks.with(ORDERED);
             for (int j = 0; j < ORDERED.length; j++) {
                 double x = ORDERED[i];
                 double y = ORDERED[j];
@@ -59,7 +39,7 @@ public final class OrderTest {
     private static void betweens() {
         for (int i = 0; i < ORDERED.length; i++) {
             for (int lo = 0; lo < ORDERED.length; lo++) {
-                ReckonBench bench = with(ORDERED);
+                ReckonBench bench = Checks.with(ORDERED);
                 for (int hi = 0; hi < ORDERED.length; hi++) {
                     double x = ORDERED[i];
                     double low = ORDERED[lo];
@@ -73,7 +53,7 @@ public final class OrderTest {
                 }
             }
         }
-        ReckonBench bench = with(1, 2, 3, Double.NaN);
+        ReckonBench bench = Checks.with(1, 2, 3, Double.NaN);
         Checks.due("8: inside", bench.between(0, 1, 0, 2), 3);
         Checks.due("8: at the bound", bench.between(0, 0, 0, 0), 3);
         Checks.due("8: outside", bench.between(0, 0, 1, 2), 0);
@@ -86,7 +66,7 @@ public final class OrderTest {
             Checks.due("10: way " + way + ", moved", bench.sort(row, way), moved);
             Checks.due("10: status behind it", bench.status(), 0);
             for (int i = 0; i < wanted.length; i++) {
-                long want = row == 0 ? Checks.d(wanted[i]) : Checks.s(single(wanted[i]));
+                long want = row == 0 ? Checks.d(wanted[i]) : Checks.s(Checks.single(wanted[i]));
                 Checks.due("10: way " + way + ", row " + row + ", place " + i, bench.get(row, i), want);
             }
             Checks.due("10: once more", bench.sort(row, way), 0);
@@ -95,16 +75,16 @@ public final class OrderTest {
 
     private static void sorts() {
         double nan = Double.NaN;
-        sorted(with(3, nan, -0.0, INF, 0.0, -INF, -3), 0, 6, -INF, -3, -0.0, 0.0, 3, INF, nan);
-        sorted(with(3, nan, -0.0, INF, 0.0, -INF, -3), 1, 7, nan, INF, 3, 0.0, -0.0, -3, -INF);
-        sorted(with(3, nan, -0.0, INF, 0.0, -INF, -3), 2, 6, -0.0, 0.0, 3, -3, INF, -INF, nan);
-        sorted(with(-3, 0.0, 3, -0.0, -INF, INF), 2, 4, 0.0, -0.0, -3, 3, -INF, INF);
-        sorted(with(1, 2, 3), 0, 0, 1, 2, 3);
-        sorted(with(1, 3, 2, 4), 0, 2, 1, 2, 3, 4);
-        sorted(with(2, 2, 1, 2), 0, 2, 1, 2, 2, 2);
-        sorted(with(nan, nan, 1, 1), 0, 4, 1, 1, nan, nan);
-        sorted(with(7), 1, 0, 7);
-        sorted(with(ORDERED), 0, 0, ORDERED);
+        sorted(Checks.with(3, nan, -0.0, INF, 0.0, -INF, -3), 0, 6, -INF, -3, -0.0, 0.0, 3, INF, nan);
+        sorted(Checks.with(3, nan, -0.0, INF, 0.0, -INF, -3), 1, 7, nan, INF, 3, 0.0, -0.0, -3, -INF);
+        sorted(Checks.with(3, nan, -0.0, INF, 0.0, -INF, -3), 2, 6, -0.0, 0.0, 3, -3, INF, -INF, nan);
+        sorted(Checks.with(-3, 0.0, 3, -0.0, -INF, INF), 2, 4, 0.0, -0.0, -3, 3, -INF, INF);
+        sorted(Checks.with(1, 2, 3), 0, 0, 1, 2, 3);
+        sorted(Checks.with(1, 3, 2, 4), 0, 2, 1, 2, 3, 4);
+        sorted(Checks.with(2, 2, 1, 2), 0, 2, 1, 2, 2, 2);
+        sorted(Checks.with(nan, nan, 1, 1), 0, 4, 1, 1, nan, nan);
+        sorted(Checks.with(7), 1, 0, 7);
+        sorted(Checks.with(ORDERED), 0, 0, ORDERED);
     }
 
     /** Of 500 that differ by their signs alone, each value's signs must stay in their order. */
@@ -153,7 +133,7 @@ public final class OrderTest {
     }
 
     private static void extremesAre(int least, int greatest, double... numbers) {
-        ReckonBench bench = with(numbers);
+        ReckonBench bench = Checks.with(numbers);
         for (int row = 0; row < 2; row++) {
             Checks.due("13: least of " + Arrays.toString(numbers), bench.least(row), least);
             Checks.due("13: status behind it", bench.status(), 0);
@@ -180,7 +160,7 @@ public final class OrderTest {
     }
 
     private static void finds() {
-        ReckonBench bench = with(-1, -0.0, -0.0, 0.0, 2, 2, Double.NaN, Double.NaN);
+        ReckonBench bench = Checks.with(-1, -0.0, -0.0, 0.0, 2, 2, Double.NaN, Double.NaN);
         found(bench, 0, Checks.d(-1), Checks.d(-0.0), Checks.d(0.0), Checks.d(2), Checks.d(1), Checks.NAN);
         found(bench, 1, Checks.s(-1f), Checks.s(-0f), Checks.s(0f), Checks.s(2f), Checks.s(1f), Checks.NAN_S);
         Checks.due("16: another NaN", bench.find(0, -1), 6);
@@ -194,15 +174,15 @@ public final class OrderTest {
         Checks.refused("16: 0 before -0", bench, bench.find(0, Checks.d(2)), -9, 4);
         bench.set(1, 7, Checks.s(5f));
         Checks.refused("16: NaN before 5", bench, bench.find(1, Checks.s(2f)), -9, 4);
-        bench = with(5);
+        bench = Checks.with(5);
         Checks.due("16: of one", bench.find(0, Checks.d(5)), 0);
-        bench = with(2, 1, 3);
+        bench = Checks.with(2, 1, 3);
         Checks.refused("16: the first two", bench, bench.find(0, Checks.d(3)), -9, 4);
         bench.sort(0, 1);
         Checks.refused("16: sorted downward", bench, bench.find(0, Checks.d(3)), -9, 4);
         bench.sort(0, 0);
         Checks.due("16: sorted", bench.find(0, Checks.d(3)), 2);
-        bench = with(1, 2, 3, 2);
+        bench = Checks.with(1, 2, 3, 2);
         Checks.refused("16: the last two", bench, bench.find(0, Checks.d(1)), -9, 4);
     }
 
@@ -215,7 +195,7 @@ public final class OrderTest {
     }
 
     private static void wrongInputs() {
-        ReckonBench bench = with(3, 2, 1);
+        ReckonBench bench = Checks.with(3, 2, 1);
         int[] rows = {-1, 2, 64, Integer.MIN_VALUE, Integer.MAX_VALUE};
         for (int row : rows) {
             Checks.refused("7: row " + row, bench, bench.compare(row, 9, 0), -9, 1);

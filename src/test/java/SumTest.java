@@ -15,17 +15,6 @@ public final class SumTest {
         Checks.end();
     }
 
-    private static ReckonBench with(double... numbers) {
-        ReckonBench bench = new ReckonBench();
-        bench.row(numbers.length, false);
-        bench.row(numbers.length, true);
-        for (int i = 0; i < numbers.length; i++) {
-            bench.set(0, i, Checks.d(numbers[i]));
-            bench.set(1, i, Checks.s((float) numbers[i]));
-        }
-        return bench;
-    }
-
     private static void sumsAre(ReckonBench bench, int row, long plain, long carried, long halved) {
         long[] wanted = {plain, carried, halved};
         for (int way = 0; way < 3; way++) {
@@ -35,7 +24,7 @@ public final class SumTest {
     }
 
     private static void same(double want, double... numbers) {
-        ReckonBench bench = with(numbers);
+        ReckonBench bench = Checks.with(numbers);
         sumsAre(bench, 0, Checks.d(want), Checks.d(want), Checks.d(want));
         float single = (float) want;
         sumsAre(bench, 1, Checks.s(single), Checks.s(single), Checks.s(single));
@@ -57,38 +46,38 @@ public final class SumTest {
         same(7, 7);
         same(0.0, 0.0);
         long minus = Checks.MINUS;
-        sumsAre(with(-0.0), 0, 0, 0, minus);
-        sumsAre(with(-0.0), 1, 0, 0, Checks.MINUS_S);
-        sumsAre(with(-0.0, -0.0), 0, 0, 0, minus);
-        sumsAre(with(INF), 0, Checks.INF, Checks.INF, Checks.INF);
+        sumsAre(Checks.with(-0.0), 0, 0, 0, minus);
+        sumsAre(Checks.with(-0.0), 1, 0, 0, Checks.MINUS_S);
+        sumsAre(Checks.with(-0.0, -0.0), 0, 0, 0, minus);
+        sumsAre(Checks.with(INF), 0, Checks.INF, Checks.INF, Checks.INF);
     }
 
     private static void waysDiffer() {
         double ulp = 0x1p-52;
-        ReckonBench bench = with(1, ulp / 2, ulp / 2, ulp / 2, ulp / 2);
+        ReckonBench bench = Checks.with(1, ulp / 2, ulp / 2, ulp / 2, ulp / 2);
         // Plainly all is lost; carried nothing is; halved (1 + u) + (u + (u + u)).
         sumsAre(bench, 0, Checks.d(1), Checks.d(1 + 2 * ulp), Checks.d(1 + 2 * ulp));
-        bench = with(16777216, 1, 1, 1, -16777216);
+        bench = Checks.with(16777216, 1, 1, 1, -16777216);
         sumsAre(bench, 1, Checks.s(0f), Checks.s(4f), Checks.s(2f));
-        bench = with(1, 1e100, 1, -1e100);
+        bench = Checks.with(1, 1e100, 1, -1e100);
         sumsAre(bench, 0, Checks.d(0), Checks.d(0), Checks.d(0));
     }
 
     /** Of three the first stands alone: 1 + (u + u); cut off the other way it would be (1 + u) + u. */
     private static void halvesAreCutOff() {
         double half = 0x1p-53;
-        Checks.due("15: of three", with(1, half, half).sum(0, 2), Checks.d(1 + 2 * half));
-        Checks.due("15: of three", with(half, half, 1).sum(0, 2), Checks.d(1));
+        Checks.due("15: of three", Checks.with(1, half, half).sum(0, 2), Checks.d(1 + 2 * half));
+        Checks.due("15: of three", Checks.with(half, half, 1).sum(0, 2), Checks.d(1));
         float single = 0x1p-24f;
-        Checks.due("15: of three", with(1, single, single).sum(1, 2), Checks.s(1 + 2 * single));
-        Checks.due("15: of three", with(single, single, 1).sum(1, 2), Checks.s(1));
+        Checks.due("15: of three", Checks.with(1, single, single).sum(1, 2), Checks.s(1 + 2 * single));
+        Checks.due("15: of three", Checks.with(single, single, 1).sum(1, 2), Checks.s(1));
     }
 
     private static void infiniteOnes() {
-        sumsAre(with(INF, 1), 0, Checks.INF, Checks.NAN, Checks.INF);
-        sumsAre(with(1, INF), 0, Checks.INF, Checks.INF, Checks.INF);
-        sumsAre(with(INF, -INF), 1, Checks.NAN_S, Checks.NAN_S, Checks.NAN_S);
-        sumsAre(with(Double.MAX_VALUE, Double.MAX_VALUE), 0, Checks.INF, Checks.INF, Checks.INF);
+        sumsAre(Checks.with(INF, 1), 0, Checks.INF, Checks.NAN, Checks.INF);
+        sumsAre(Checks.with(1, INF), 0, Checks.INF, Checks.INF, Checks.INF);
+        sumsAre(Checks.with(INF, -INF), 1, Checks.NAN_S, Checks.NAN_S, Checks.NAN_S);
+        sumsAre(Checks.with(Double.MAX_VALUE, Double.MAX_VALUE), 0, Checks.INF, Checks.INF, Checks.INF);
     }
 
     private static void anySums() {
@@ -115,7 +104,7 @@ public final class SumTest {
     }
 
     private static void wrongInputs() {
-        ReckonBench bench = with(1, 2);
+        ReckonBench bench = Checks.with(1, 2);
         int[] rows = {-1, 2, Integer.MIN_VALUE, Integer.MAX_VALUE};
         for (int row : rows) {
             Checks.refused("15: row " + row, bench, bench.sum(row, 3), 0, 1);
