@@ -12,15 +12,44 @@ final class Checks {
     private static final int MOST_PRINTED = 40;
     private static int done = 0;
     private static int wrong = 0;
+    private static String sentence = "";
+    private static int sentences = 0;
+    private static int doneBefore = 0;
+    private static int wrongBefore = 0;
 
     private Checks() {
+    }
+
+    /**
+     * The answers from here on are those that this sentence of the document asks for.
+     * In square brackets stands which side of it is tried.
+     */
+    static void says(String words) {
+        closeSentence();
+        sentence = words;
+        sentences++;
+        doneBefore = done;
+        wrongBefore = wrong;
+    }
+
+    private static void closeSentence() {
+        if (sentence.isEmpty()) {
+            return;
+        }
+        if (done == doneBefore) {
+            wrong++;
+            System.out.println("NOT TRIED: " + sentence);
+        } else if (wrong != wrongBefore) {
+            System.out.println("BROKEN: " + sentence);
+        }
+        sentence = "";
     }
 
     static void due(String what, long got, long want) {
         done++;
         if (got != want) {
             wrong++;
-            if (wrong <= MOST_PRINTED) {
+            if (wrong - wrongBefore <= MOST_PRINTED) {
                 System.out.println(what + " answered " + got + ", due is " + want);
             }
         }
@@ -34,6 +63,10 @@ final class Checks {
     }
 
     static void end() {
+        closeSentence();
+        if (sentences > 0) {
+            System.out.println(sentences + " sentences");
+        }
         System.out.println(done + " answers, " + wrong + " not as due");
         if (wrong != 0 || done == 0) {
             System.exit(1);
