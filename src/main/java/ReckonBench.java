@@ -209,7 +209,7 @@ public final class ReckonBench {
             case SUM_CARRIED:
                 return answerLong(Sums.carried(held.kind, held.numbers));
             case SUM_HALVED:
-                return answerLong(Sums.halved(held.kind, held.numbers, 0, held.numbers.length, 0));
+                return answerLong(Sums.halved(held.kind, held.numbers));
             default:
                 return refuseLong(OUT_OF_RANGE);
         }
@@ -809,7 +809,11 @@ public final class ReckonBench {
             return sum;
         }
 
-        static long halved(Kind kind, long[] numbers, int from, int count, int depth) {
+        static long halved(Kind kind, long[] numbers) {
+            return ofPart(kind, numbers, 0, numbers.length, 0);
+        }
+
+        private static long ofPart(Kind kind, long[] numbers, int from, int count, int depth) {
             if (count < 1 || from < 0 || from >= numbers.length || depth > DEEPEST) {
                 return 0;
             }
@@ -817,8 +821,8 @@ public final class ReckonBench {
                 return numbers[from];
             }
             int half = count / 2;
-            long first = halved(kind, numbers, from, half, depth + 1);
-            long others = halved(kind, numbers, from + half, count - half, depth + 1);
+            long first = ofPart(kind, numbers, from, half, depth + 1);
+            long others = ofPart(kind, numbers, from + half, count - half, depth + 1);
             return Reckoning.plus(kind, first, others);
         }
     }
